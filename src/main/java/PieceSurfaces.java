@@ -19,9 +19,9 @@ public final class PieceSurfaces {
     private final Image[] images;
 
     public PieceSurfaces() {
-        world = new World();
-        skeleton = new Skeleton();
-        survey = new Survey(world, skeleton);
+        survey = new Survey();
+        world = survey.world;
+        skeleton = survey.skeleton;
         past = new Past();
         book = new Book();
         dice = new Dice();
@@ -51,7 +51,7 @@ public final class PieceSurfaces {
             case 3: return skeleton.lines;
             case 4: return skeleton.reversedLines();
             case 5: return survey.goodVertices();
-            case 6: return survey.isManifold() ? 1 : 0;
+            case 6: return skeleton.reversedLines() == 0 && survey.goodVertices() == skeleton.vertices ? 1 : 0;
             case 8: return survey.wholeCharacteristic() + 100;
             default: return book.firstWrong(world, survey);
         }
@@ -764,7 +764,7 @@ public final class PieceSurfaces {
         }
     }
 
-    /** Looks at surfaces in the world; the skeleton must have been read since the world was last changed. */
+    /** The world as it is now, and what can be seen in it; the skeleton must have been read since the last change. */
     private static final class Survey {
         final World world;
         final Skeleton skeleton;
@@ -776,18 +776,22 @@ public final class PieceSurfaces {
         final int[] start;
         final Sheet link;
         final Sheet part;
+        /** The kinds of which the surface that may split has pieces. */
+        final int[] used;
+        int usedCount;
         int components;
         int twoSided;
 
-        Survey(World theWorld, Skeleton itsSkeleton) {
-            world = theWorld;
-            skeleton = itsSkeleton;
+        Survey() {
+            world = new World();
+            skeleton = new Skeleton();
             matching = new Matching();
             joined = new Classes(Shape.KINDS * Shape.PIECES);
             sides = new Classes(2 * Shape.KINDS * Shape.PIECES);
             start = new int[Shape.KINDS];
             link = new Sheet();
             part = new Sheet();
+            used = new int[Shape.KINDS];
         }
 
         boolean matches(Sheet sheet) {
@@ -927,10 +931,6 @@ public final class PieceSurfaces {
             return sum;
         }
 
-        boolean isManifold() {
-            return skeleton.reversedLines() == 0 && goodVertices() == skeleton.vertices;
-        }
-
         /** The vertices, minus the lines, plus the faces (of two that are glued, one), minus the tetrahedra. */
         int wholeCharacteristic() {
             int faces = (world.faces() + world.freeFaces()) / 2;
@@ -944,6 +944,7 @@ public final class PieceSurfaces {
                 return NONE;
             }
             matching.read(world, sheet);
+            listUsed(sheet);
             part.clear();
             // The conditions are linear, so if a part matches, the rest does; and the rest of part i is part
             // possible - 1 - i. So half of the parts are enough, without the empty one and the whole.
@@ -964,9 +965,20 @@ public final class PieceSurfaces {
             return product;
         }
 
+        private void listUsed(Sheet sheet) {
+            usedCount = 0;
+            for (int k = 0; k < Shape.KINDS; k++) {
+                if (sheet.numbers[k] > 0) {
+                    used[usedCount] = k;
+                    usedCount++;
+                }
+            }
+        }
+
         /** Counts the part up by one, the pieces of the first kind being the lowest digit. */
         private void nextPart(Sheet whole) {
-            for (int k = 0; k < Shape.KINDS; k++) {
+            for (int i = 0; i < usedCount; i++) {
+                int k = used[i];
                 if (part.numbers[k] < whole.numbers[k]) {
                     part.numbers[k]++;
                     return;

@@ -294,6 +294,8 @@ public final class PromisesTest {
         dueSurface(x, withPieces(x, 0, 0, 0, 0, 1), 1, 0, 1, 1001, 1, 4, 1, 1, 0);
         dueSurface(x, withPieces(x, 1, 2, 0, 0, 0, 0, 1), 1, 0, 4, 1004, 4, 13, 4, 0, 1);
         splitLimit();
+        noSplit();
+        lastCondition();
         due(x.surface(2, 0), UNKNOWN);
         due(x.surface(2, 9), UNKNOWN);
         due(x.surface(0, 9), OUTSIDE);
@@ -310,6 +312,7 @@ public final class PromisesTest {
         due(x.surface(withPieces(x, 10, 12, 13, 2), 8), NONE);
         due(x.surface(withPieces(x, 20, 20, 20, 20, 20), 8), NONE);
         due(x.surface(2, 4), 100);
+        due(x.surface(withPieces(x, 19, 19, 14, 1), 8), NONE);
         x.bodies(3);
         int s = withPieces(x, 20, 20, 20, 20, 20, 0, 0, 20, 20, 20, 20, 0, 20, 0, 20, 20, 20, 20, 0, 0, 20);
         due(x.surface(s, 8), NONE);
@@ -317,6 +320,34 @@ public final class PromisesTest {
         due(x.surface(s, 4), 300);
         due(x.surface(s, 6), 300);
         due(x.surface(s, 3), 1300);
+    }
+
+    private static void noSplit() {
+        // The conditions ask that the other three numbers are equal, and that the first is twice as large.
+        PieceSurfaces x = new PieceSurfaces();
+        x.bodies(2);
+        x.glue(1, 3, 0, 0, 5);
+        x.glue(1, 0, 0, 3, 5);
+        x.glue(1, 1, 1, 2, 1);
+        x.glue(0, 1, 0, 2, 0);
+        due(x.surface(withPieces(x, 2, 0, 0, 1, 0, 0, 0, 0, 0, 0, 1, 0, 0, 1), 8), 0);
+        due(x.surface(withPieces(x, 4, 0, 0, 2, 0, 0, 0, 0, 0, 0, 2, 0, 0, 2), 8), 1);
+        due(x.surface(withPieces(x, 3, 0, 0, 1, 0, 0, 0, 0, 0, 0, 1, 0, 0, 1), 8), NONE);
+    }
+
+    private static void lastCondition() {
+        // Three spheres; only the last corner of the last glued face has other numbers of arcs on both sides.
+        PieceSurfaces x = new PieceSurfaces();
+        x.bodies(3);
+        for (int b = 0; b < 3; b++) {
+            x.glue(b, 0, b, 1, 0);
+            x.glue(b, 2, b, 3, 0);
+        }
+        int s = withPieces(x, 1, 1, 1, 1, 0, 0, 0, 1, 1, 1, 1, 0, 0, 0, 1, 1, 1, 1);
+        due(x.surface(s, 0), 1);
+        due(x.surface(s, 4), 6);
+        x.piece(s, 2, 3, 2);
+        due(x.surface(s, 0), 0);
     }
 
     private static void promise8() {
@@ -542,6 +573,22 @@ public final class PromisesTest {
         duePieces(x, 0, 0, 1, 2, 3, 4, 10, 0, 0);
         due(x.told(11), Math.min(16, steps + 3));
         crossingParts();
+        tooMany();
+    }
+
+    private static void tooMany() {
+        for (int k = 0; k < 21; k++) {
+            PieceSurfaces x = new PieceSurfaces();
+            x.bodies(3);
+            x.put();
+            x.put();
+            x.piece(0, k / 7, k % 7, 1);
+            x.piece(1, k / 7, k % 7, 20);
+            due(x.add(0, 1), NOT);
+            x.piece(1, k / 7, k % 7, 19);
+            due(x.add(0, 1), 2);
+            due(x.pieces(2, k / 7, k % 7), 20);
+        }
     }
 
     private static void crossingParts() {
