@@ -146,6 +146,29 @@ final class BoundaryDeeds {
         x.due("free 0 0", 12);
         x.due("wall 2 3 0", NONE);
         x.due("told 2", 12);
+        for (int face = 0; face < 12; face++) {
+            for (int other = face + 1; other < 12; other++) {
+                leavesNothing(face / 4, face % 4, other / 4, other % 4);
+            }
+        }
+    }
+
+    /** On one object: whatever was asked while two faces were glued, once they are free all is as if they had not been. */
+    private static void leavesNothing(int b, int f, int c, int g) {
+        Subject x = Subject.after("bodies 3");
+        for (int way = 0; way < 6; way++) {
+            x.due("glue " + b + " " + f + " " + c + " " + g + " " + way, 10);
+            String piece = "piece 0 " + b + " " + (f + 1) % 4 + " 1";
+            for (String call : new String[] {"put", piece, "surface 0 0", "surface 0 8", "told 4", "told 5"}) {
+                x.call(call);
+            }
+            x.due("free " + c + " " + g, 12);
+            x.dueRow("told #", 3, 12, 12, 18, 0, 12, 1, 0, 103);
+            x.due("put", 0);
+            x.due(piece, 0);
+            x.dueRow("surface 0 #", 1, 0, 1, 1001, 1, 3, 1, 1, 0);
+            x.due("take 0", 0);
+        }
     }
 
     private static void putFull() {

@@ -169,8 +169,50 @@ final class BoundaryRooms {
         Subject.after("bodies 2, glue 0 2 1 2 0, glue 0 3 1 3 0").due("told 4", 0);
         // To and fro, both with the direction reversed, is no reversal.
         Subject.after("bodies 2, glue 0 2 1 2 2, glue 0 3 1 3 2").due("told 4", 0);
-        // The only edges of a line that are glued to others, reversed, make all its edges reversed.
+        // The edges of one line are all reversed if one of them is.
         Subject.after(Scenes.ONE_LINE).dueRow("edge 2 # 2", 1, 1, 1, 1, 1, 1);
+        reversedByOneGluing();
+    }
+
+    /** The place in the second face of each corner of the first one. */
+    private static final int[][] WAYS = {{0, 1, 2}, {0, 2, 1}, {1, 0, 2}, {1, 2, 0}, {2, 0, 1}, {2, 1, 0}};
+
+    private static void reversedByOneGluing() {
+        // One gluing within a tetrahedron can reverse only the edge that both faces have, by changing its corners.
+        for (int face = 0; face < 12; face++) {
+            for (int other = face + 1; other < 12; other++) {
+                for (int way = 0; way < 6; way++) {
+                    Subject x = Subject.after("bodies 3, glue " + face / 4 + " " + face % 4 + " " + other / 4 + " " + other % 4 + " " + way);
+                    boolean one = face / 4 == other / 4 && changesCommonEdge(face % 4, other % 4, way);
+                    x.due("told 4", one ? 1 : 0);
+                    x.dueRow("edge " + (face / 4 + 1) % 3 + " # 2", 0, 0, 0, 0, 0, 0);
+                    if (face / 4 != other / 4) {
+                        x.due("told 2", 9);
+                        x.due("told 3", 15);
+                    } else {
+                        x.dueRow("edge " + (face / 4 + 1) % 3 + " # 1", 1, 1, 1, 1, 1, 1);
+                        x.dueRow("edge " + (face / 4 + 2) % 3 + " # 1", 1, 1, 1, 1, 1, 1);
+                    }
+                }
+            }
+        }
+    }
+
+    private static boolean changesCommonEdge(int f, int g, int way) {
+        int p = -1;
+        int q = -1;
+        for (int v = 0; v < 4; v++) {
+            if (v != f && v != g) {
+                q = p < 0 ? q : v;
+                p = p < 0 ? v : p;
+            }
+        }
+        return WAYS[way][placeIn(f, p)] == placeIn(g, q) && WAYS[way][placeIn(f, q)] == placeIn(g, p);
+    }
+
+    /** How many corners of the face are below this one. */
+    private static int placeIn(int face, int v) {
+        return v > face ? v - 1 : v;
     }
 
     private static void toldOutside() {

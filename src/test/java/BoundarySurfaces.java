@@ -96,7 +96,19 @@ final class BoundarySurfaces {
         // A quadrilateral stands for a triangle at one corner of each face.
         Subject.after("bodies 2, glue 0 0 1 0 0, " + Sentences.shape(0, 0, 0, 0, 0, 1, 0, 0, 0, 1)).due("surface 0 0", 1);
         Subject.after("bodies 2, glue 0 0 1 0 0, " + Sentences.shape(0, 0, 0, 0, 0, 1, 0, 0, 0, 0, 1)).due("surface 0 0", 0);
+        matchingOnOneSide();
         matchingAtTheLastFace();
+    }
+
+    private static void matchingOnOneSide() {
+        // One piece, on one side of the gluing: only the triangle at the corner without arcs there matches.
+        for (int b = 0; b < 2; b++) {
+            for (int kind = 0; kind < 7; kind++) {
+                Subject.after("bodies 2, glue 0 0 1 0 0, put, piece 0 " + b + " " + kind + " 1").due("surface 0 0", kind == 0 ? 1 : 0);
+                Subject.after("bodies 3, glue 1 3 2 0 5, put, piece 0 " + (1 + b) + " " + kind + " 1")
+                    .due("surface 0 0", kind == 3 - 3 * b ? 1 : 0);
+            }
+        }
     }
 
     private static void matchingAtTheLastFace() {
@@ -174,6 +186,30 @@ final class BoundarySurfaces {
         Subject.after(Scenes.LENS + ", " + Sentences.shape(0, 0, 0, 0, 0, 0, 20)).due("surface 0 4", 10);
         Subject.after(Scenes.LENS + ", " + Sentences.shape(0, 0, 0, 0, 0, 0, 19)).due("surface 0 4", 10);
         Subject.after(Scenes.ONE_LINE + ", about 0").due("surface 0 4", 1);
+        for (int b = 0; b < 3; b++) {
+            componentsIn(b);
+        }
+        // Two triangles that are joined, and two that are not
+        Subject.after("bodies 3, glue 1 0 2 0 0, put, piece 0 1 1 1, piece 0 2 1 1").due("surface 0 4", 1);
+        Subject.after("bodies 3, glue 1 0 2 0 0, put, piece 0 1 0 1, piece 0 2 0 1").due("surface 0 4", 2);
+        Subject.after("bodies 3, glue 1 0 2 0 0, put, piece 0 1 4 1, piece 0 2 1 1").due("surface 0 4", 1);
+    }
+
+    /** Links and quadrilaterals in one of three tetrahedra, whose arcs lie behind one another at the corners. */
+    private static void componentsIn(int b) {
+        String sphere = "bodies 3, glue b 0 b 1 0, glue b 2 b 3 0".replace("b ", b + " ");
+        String lens = "bodies 3, glue b 0 b 1 3, glue b 2 b 3 3".replace("b ", b + " ");
+        Subject.after(sphere + ", " + Sentences.shape(0, shifted(b, 1, 1, 1, 1, 1))).dueRow("surface 0 #", 1, 0, 5, 1004, 3, 0, 3, 0, 1);
+        Subject.after(lens + ", " + Sentences.shape(0, shifted(b, 1, 1, 1, 1, 0, 2))).dueRow("surface 0 #", 1, 0, 6, 1002, 2, 0, 2, 0, 1);
+        Subject.after(lens + ", " + Sentences.shape(0, shifted(b, 2, 2, 2, 2, 0, 1))).dueRow("surface 0 #", 1, 0, 9, 1004, 3, 0, 2, 0, 1);
+        Subject.after(lens + ", " + Sentences.shape(0, shifted(b, 20, 20, 20, 20, 0, 20)))
+            .dueRow("surface 0 #", 1, 0, 100, 1040, 30, 0, 30, 0, NONE);
+    }
+
+    private static int[] shifted(int b, int... numbers) {
+        int[] row = new int[7 * b + numbers.length];
+        System.arraycopy(numbers, 0, row, 7 * b, numbers.length);
+        return row;
     }
 
     private static void boundaryNumber() {
@@ -183,6 +219,11 @@ final class BoundarySurfaces {
         Subject.after(Sentences.shape(0, 0, 0, 0, 0, 0, 0, 20)).due("surface 0 5", 80);
         Subject.after("bodies 3, " + ALL_OF_FIVE_KINDS).due("surface 0 5", 960);
         Subject.after(Scenes.SPHERE + ", " + Sentences.shape(0, 20, 20, 20, 20, 20)).due("surface 0 5", 0);
+        for (int k = 0; k < 21; k++) {
+            Subject.after("bodies 3, put, piece 0 " + k / 7 + " " + k % 7 + " 1").due("surface 0 5", k % 7 < 4 ? 3 : 4);
+        }
+        // The triangle at corner 0 has one arc on a free face, face 1.
+        Subject.after("glue 0 2 0 3 0, about 0").dueRow("surface 0 #", 1, 0, 1, 1001, 1, 1, 1, 1, 0);
         // Faces 2 and 3 are free: each has an arc of both triangles.
         Subject.after("glue 0 0 0 1 0, " + Sentences.shape(0, 1, 1)).due("surface 0 5", 4);
     }
@@ -255,11 +296,12 @@ final class BoundarySurfaces {
         goodAbout(Scenes.GIESEKING, 0, 1000, 0);
         // With a boundary: 1 is good; 2 and 0 are not.
         new Subject().due("told 5", 4);
+        goodAbout("glue 0 2 0 3 0", 0, 1001, 3);
         goodAbout("glue 0 0 0 1 1", 1, 1002, 1);
         goodAbout("glue 0 2 0 3 1", 0, 1000, 1);
     }
 
-    /** How many vertices are good where one is not, whose link has a certain characteristic. */
+    /** How many vertices are good where the link of one has a certain characteristic. */
     private static void goodAbout(String rooms, int vertex, int characteristic, int good) {
         Subject x = Subject.after(rooms + ", about " + vertex);
         x.due("surface 0 3", characteristic);
@@ -306,6 +348,13 @@ final class BoundarySurfaces {
         splits(halves, 0, 2, 0, 0, 1, 0, 0, 0, 0, 0, 0, 1, 0, 0, 1);
         splits(halves, 1, 4, 0, 0, 2, 0, 0, 0, 0, 0, 0, 2, 0, 0, 2);
         splits(halves, 1, 6, 0, 0, 3, 0, 0, 0, 0, 0, 0, 3, 0, 0, 3);
+        // Asked one after the other, and again
+        Subject x = Subject.after(Scenes.SPHERE + ", " + Sentences.shape(0, 1, 1) + ", " + Sentences.shape(1, 2, 2, 0, 0, 1) + ", "
+            + Sentences.shape(2, 0, 0, 1, 1) + ", " + Sentences.shape(3, 0, 0, 0, 0, 1) + ", put");
+        for (int i = 0; i < 4; i++) {
+            x.dueRow("surface # 8", 0, 1, 0, 0, 0);
+            x.due("surface 1 8", 1);
+        }
     }
 
     private static void splits(String rooms, int want, int... numbers) {
