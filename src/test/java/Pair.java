@@ -7,14 +7,20 @@ final class Pair {
     static int wrong = 0;
     static long calls = 0;
 
-    final PieceSurfaces real = new PieceSurfaces();
+    /** Hidden, so that every call of it is counted; what a test must know of the state it asks the model. */
+    private final PieceSurfaces real = new PieceSurfaces();
     final Model model = new Model();
     private final StringBuilder run = new StringBuilder();
+    private int made;
 
     int call(String name, int... a) {
         int got;
         int due;
         calls++;
+        made++;
+        if (callsLeft() < 0) {
+            throw new IllegalStateException("more than " + Subject.LIMIT + " calls: " + run);
+        }
         switch (name) {
             case "told": got = real.told(a[0]); due = model.told(a[0]); break;
             case "wall": got = real.wall(a[0], a[1], a[2]); due = model.wall(a[0], a[1], a[2]); break;
@@ -44,6 +50,10 @@ final class Pair {
         return got;
     }
 
+    int callsLeft() {
+        return Subject.LIMIT - made;
+    }
+
     private void note(String name, int[] a, int got, int due) {
         run.append(name).append('(');
         for (int i = 0; i < a.length; i++) {
@@ -63,7 +73,7 @@ final class Pair {
         for (int what = 0; what < 12; what++) {
             call("told", what);
         }
-        for (int b = 0; b < real.told(0); b++) {
+        for (int b = 0; b < model.told(0); b++) {
             for (int v = 0; v < 4; v++) {
                 for (int what = 0; what < 3; what++) {
                     call("wall", b, v, what);
@@ -87,7 +97,7 @@ final class Pair {
     }
 
     void lookAtNumbers(int s) {
-        for (int b = 0; b < real.told(0); b++) {
+        for (int b = 0; b < model.told(0); b++) {
             for (int kind = 0; kind < 7; kind++) {
                 call("pieces", s, b, kind);
             }

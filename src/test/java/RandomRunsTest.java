@@ -1,6 +1,6 @@
 import java.util.Random;
 
-/** Long runs of mixed calls, right and wrong ones, each answered by the class and by the model. */
+/** Runs of mixed calls, right and wrong ones, 512 on each object, each answered by the class and by the model. */
 public final class RandomRunsTest {
     private static final int[] ODD = {-1, -2, 21, 100, Integer.MIN_VALUE, Integer.MAX_VALUE, PieceSurfaces.UNKNOWN};
 
@@ -22,7 +22,7 @@ public final class RandomRunsTest {
         int style = random.nextInt(4);
         pair.call("seed", random.nextInt(Integer.MAX_VALUE));
         pair.call("bodies", 1 + random.nextInt(3));
-        for (int i = 0; i < 510; i++) {
+        while (pair.callsLeft() > 0) {
             if (random.nextInt(100) < 4) {
                 wildCall();
             } else {
@@ -42,11 +42,11 @@ public final class RandomRunsTest {
     }
 
     private int body() {
-        return random.nextInt(pair.real.told(0));
+        return random.nextInt(pair.model.told(0));
     }
 
     private int sheet() {
-        return random.nextInt(Math.max(1, pair.real.told(7)));
+        return random.nextInt(Math.max(1, pair.model.told(7)));
     }
 
     private void plainCall(int style) {
@@ -58,13 +58,14 @@ public final class RandomRunsTest {
         } else if (dice < 62) {
             pair.call("put");
         } else if (dice < 69) {
-            pair.call("about", random.nextInt(Math.max(1, pair.real.told(2))));
+            pair.call("about", random.nextInt(Math.max(1, pair.model.told(2))));
         } else if (dice < 77) {
             pair.call("add", sheet(), sheet());
         } else if (dice < 81) {
             pair.call("take", sheet());
         } else if (dice < 85) {
-            pair.call("write", sheet(), pair.real.surface(sheet(), 3) - 1000 + random.nextInt(7) / 6);
+            int s = sheet();
+            pair.call("write", s, pair.model.surface(s, 3) - 1000 + random.nextInt(7) / 6);
         } else if (dice < 86) {
             pair.call("tear");
         } else if (dice < 90) {

@@ -1,7 +1,12 @@
 import java.lang.management.ManagementFactory;
 
-/** The dearest calls, 512 on each object, make no objects; and they come to an end soon. */
+/** The dearest calls, up to 512 on each object, make no objects; they come to an end soon, and a new object is small. */
 public final class RoomTest {
+    /** The number of calls that fill() makes, and how many calls an object has left then. */
+    private static final int PREPARING = 1 + 6 + 3 + 36 + 40, LEFT = Subject.LIMIT - PREPARING;
+    /** Bytes of a new object, which are at most 16,384 elements: the room of a run holds 400 such objects. */
+    private static final long MOST_OF_ONE = 64 * 1024;
+
     private RoomTest() {
     }
 
@@ -9,17 +14,22 @@ public final class RoomTest {
         com.sun.management.ThreadMXBean threads = (com.sun.management.ThreadMXBean) ManagementFactory.getThreadMXBean();
         long sum = 0;
         long made = 0;
+        long one = 0;
         // The first rounds load classes, which is not the work of the calls.
         for (int round = 0; round < 3; round++) {
-            PieceSurfaces x = full();
+            long first = threads.getCurrentThreadAllocatedBytes();
+            PieceSurfaces x = new PieceSurfaces();
+            one = threads.getCurrentThreadAllocatedBytes() - first;
+            fill(x);
             long before = threads.getCurrentThreadAllocatedBytes();
-            for (int i = 0; i < 430; i++) {
+            for (int i = 0; i < LEFT; i++) {
                 sum += dear(x, i);
             }
             made = threads.getCurrentThreadAllocatedBytes() - before;
         }
-        System.out.println("RoomTest: " + made + " bytes made by 430 calls, sum of answers " + sum);
-        if (made > 4096) {
+        System.out.println("RoomTest: " + one + " bytes of one object, " + made + " bytes made by " + LEFT
+            + " calls, sum of answers " + sum);
+        if (made > 4096 || one > MOST_OF_ONE) {
             System.exit(1);
         }
     }
@@ -38,8 +48,7 @@ public final class RoomTest {
     }
 
     /** Three tetrahedra, all glued, and surfaces with many pieces. */
-    private static PieceSurfaces full() {
-        PieceSurfaces x = new PieceSurfaces();
+    private static void fill(PieceSurfaces x) {
         x.bodies(3);
         x.glue(0, 0, 0, 1, 0);
         x.glue(0, 2, 1, 2, 0);
@@ -60,6 +69,5 @@ public final class RoomTest {
         for (int i = 0; i < 20; i++) {
             x.write(0, x.surface(0, 3) - 1000);
         }
-        return x;
     }
 }

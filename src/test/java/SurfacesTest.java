@@ -6,6 +6,7 @@ import java.util.Random;
 public final class SurfacesTest {
     private static final int[][] PAIRINGS = {{0, 1, 2, 3}, {0, 2, 1, 3}, {0, 3, 1, 2}};
     private static final int[] types = new int[8];
+    private static int cellsCounted;
 
     private SurfacesTest() {
     }
@@ -32,6 +33,10 @@ public final class SurfacesTest {
                 System.out.println("no surface of type " + type + " was met");
                 Pair.wrong++;
             }
+        }
+        if (cellsCounted == 0) {
+            System.out.println("no surface's cells were counted");
+            Pair.wrong++;
         }
         Pair.end("SurfacesTest");
     }
@@ -69,21 +74,37 @@ public final class SurfacesTest {
         for (int i = 0; i < Math.min(found.size(), 40); i++) {
             int[][] one = found.get(random.nextInt(found.size()));
             int[][] two = found.get(random.nextInt(found.size()));
-            lookAtSum(glued(bodies, gluings), one, two);
+            lookAtSum(bodies, gluings, one, two);
         }
     }
 
-    private static void lookAtSum(Pair pair, int[][] one, int[][] two) {
+    private static void lookAtSum(int bodies, List<int[]> gluings, int[][] one, int[][] two) {
+        Pair pair = glued(bodies, gluings);
         enter(pair, one);
         enter(pair, two);
         pair.lookAtSurface(0);
         pair.lookAtNumbers(0);
-        types[pair.real.surface(0, 7)]++;
+        types[pair.call("surface", 0, 7)]++;
+        lookAtCells(pair, bodies, gluings, one);
         if (pair.call("add", 0, 1) >= 0) {
             pair.lookAtSurface(2);
             if (pair.call("add", 2, 2) >= 0) {
                 pair.lookAtSurface(3);
             }
+        }
+    }
+
+    /** Without a reversed line, the characteristic is that of the cells that the gluings leave of the surface. */
+    private static void lookAtCells(Pair pair, int bodies, List<int[]> gluings, int[][] numbers) {
+        if (pair.call("told", 4) > 0) {
+            return;
+        }
+        cellsCounted++;
+        int got = pair.call("surface", 0, 3);
+        int due = Cells.characteristic(bodies, gluings, numbers) + 1000;
+        if (got != due) {
+            Pair.wrong++;
+            System.out.println("surface(0, 3) answered " + got + ", its cells tell " + due);
         }
     }
 
